@@ -1,14 +1,6 @@
 /** Promise 7 (act): each act, its faults and their order. */
-public final class ActsTest {
+public final class ActsTest implements Names {
     private static final Due DUE = new Due("ActsTest");
-    private static final int NONE = LoomPanel.NONE, BAD = LoomPanel.BAD;
-    private static final int CAST = -11, NULL = -12, INDEX = -13, STORE = -14, SIZE = -15,
-            FULL = -16;
-    private static final int SUM = 0, WIDEN = 1, NARROW = 2, TAP = 3, LAY = 4, LEVELS = 5,
-            DRIVE = 6, PAIR = 7, POWER = 8, JOIN = 9, COPY = 10, NEW = 11, CHECK = 12;
-    /** The VALUES of panel(): one of each form, numbered as the forms are. */
-    private static final int BYTES = 0, INTS = 1, LONGS = 2, GRID = 3, WIRE = 4, LIVE = 5,
-            CABLE = 6, LIVE_CABLE = 7, PLUGS = 8, LOOM = 9, LIVE_LOOM = 10, NEXT = 11;
 
     public static void main(String[] args) {
         refusals();
@@ -31,28 +23,13 @@ public final class ActsTest {
         DUE.end();
     }
 
-    /** One of each form; rows and boards of three places, all empty; LEVELS 5 and 7. */
-    private static LoomPanel panel() {
-        LoomPanel p = new LoomPanel();
-        for (int form = 0; form <= 2; form++) {
-            p.row(form, 3);
-        }
-        p.board(GRID, 3);
-        p.wire(false, 5);
-        p.wire(true, 7);
-        for (int form = CABLE; form <= LIVE_LOOM; form++) {
-            p.board(form, 3);
-        }
-        return p;
-    }
-
     private static void due(LoomPanel p, int act, int x, int y, int n, int want) {
         DUE.same("act(" + act + ", " + x + ", " + y + ", " + n + ")", p.act(act, x, y, n), want);
     }
 
     /** The act has the fault with each of these, and changes nothing. */
     private static void allFault(int act, int n, int fault, int... xs) {
-        LoomPanel p = panel();
+        LoomPanel p = Panels.ofEachForm();
         int faults = 0;
         for (int x : xs) {
             due(p, act, x, NONE, n, fault);
@@ -64,7 +41,7 @@ public final class ActsTest {
     }
 
     private static void refusals() {
-        LoomPanel p = panel();
+        LoomPanel p = Panels.ofEachForm();
         for (int act : new int[] {-1, 13, Integer.MIN_VALUE, Integer.MAX_VALUE}) {
             due(p, act, BYTES, NONE, 0, BAD);
         }
@@ -79,7 +56,7 @@ public final class ActsTest {
     }
 
     private static void sums() {
-        LoomPanel p = panel();
+        LoomPanel p = Panels.ofEachForm();
         p.set(BYTES, 0, -128);
         p.set(BYTES, 1, -128);
         p.set(INTS, 0, Integer.MAX_VALUE);
@@ -111,7 +88,7 @@ public final class ActsTest {
     }
 
     private static void widths() {
-        LoomPanel p = panel();
+        LoomPanel p = Panels.ofEachForm();
         p.set(BYTES, 0, -1);
         p.set(BYTES, 2, 127);
         p.set(INTS, 0, 0x12345680);
@@ -141,7 +118,7 @@ public final class ActsTest {
     }
 
     private static void taps() {
-        LoomPanel p = panel();
+        LoomPanel p = Panels.ofEachForm();
         int[] boards = {GRID, CABLE, LIVE_CABLE, PLUGS, LOOM, LIVE_LOOM};
         int[] fitting = {INTS, WIRE, LIVE, LIVE, CABLE, LIVE_CABLE};
         for (int b = 0; b < boards.length; b++) {
@@ -177,7 +154,7 @@ public final class ActsTest {
             {10, c, c, c, c, c, c, s, 10, c, c, c},
         };
         for (int x = NONE; x <= LIVE_LOOM; x++) {
-            LoomPanel p = panel();
+            LoomPanel p = Panels.ofEachForm();
             for (int y = NONE; y <= LIVE_LOOM; y++) {
                 int due = want[x + 1][y + 1];
                 due(p, LAY, x, y, 0, due);
@@ -195,7 +172,7 @@ public final class ActsTest {
     }
 
     private static void laysStore() {
-        LoomPanel p = panel();
+        LoomPanel p = Panels.ofEachForm();
         due(p, LAY, LIVE_CABLE, LIVE, 1, LIVE_CABLE);
         due(p, LAY, LIVE_CABLE, WIRE, 1, STORE);
         due(p, TAP, LIVE_CABLE, NONE, 1, LIVE);
@@ -208,7 +185,7 @@ public final class ActsTest {
     }
 
     private static void levels() {
-        LoomPanel p = panel();
+        LoomPanel p = Panels.ofEachForm();
         p.act(LAY, CABLE, WIRE, 0);
         p.act(LAY, CABLE, LIVE, 2);
         p.act(LAY, LIVE_CABLE, LIVE, 1);
@@ -225,7 +202,7 @@ public final class ActsTest {
     }
 
     private static void drives() {
-        LoomPanel p = panel();
+        LoomPanel p = Panels.ofEachForm();
         p.set(INTS, 0, Integer.MIN_VALUE);
         p.set(INTS, 2, 8);
         due(p, DRIVE, INTS, NONE, 0, NEXT + 3);
@@ -253,7 +230,7 @@ public final class ActsTest {
     private static void pairs() {
         int[] live = {0, 1, -1, Integer.MIN_VALUE};
         for (int n : live) {
-            LoomPanel p = panel();
+            LoomPanel p = Panels.ofEachForm();
             int made = NEXT;
             for (int x = NONE; x <= LIVE_LOOM; x++) {
                 for (int y = NONE; y <= LIVE_LOOM; y++) {
@@ -277,7 +254,7 @@ public final class ActsTest {
     }
 
     private static void powers() {
-        LoomPanel p = panel();
+        LoomPanel p = Panels.ofEachForm();
         due(p, POWER, LIVE, NONE, 0, NEXT);
         DUE.row("POWER of a LIVE", p, NEXT, 21);
         DUE.same("POWER gives INTS", p.is(NEXT, 1), 1);
@@ -297,7 +274,7 @@ public final class ActsTest {
 
     private static void joins() {
         for (int x = NONE; x <= LIVE_LOOM; x++) {
-            LoomPanel p = panel();
+            LoomPanel p = Panels.ofEachForm();
             int made = NEXT;
             boolean xCable = x == CABLE || x == LIVE_CABLE;
             boolean xRow = x >= BYTES && x <= LONGS;
@@ -333,7 +310,7 @@ public final class ActsTest {
     }
 
     private static void joinedCables() {
-        LoomPanel p = panel();
+        LoomPanel p = Panels.ofEachForm();
         p.act(LAY, CABLE, WIRE, 0);
         p.act(LAY, CABLE, LIVE, 2);
         p.act(LAY, LIVE_CABLE, LIVE, 1);
@@ -358,7 +335,7 @@ public final class ActsTest {
     }
 
     private static void copies() {
-        LoomPanel p = panel();
+        LoomPanel p = Panels.ofEachForm();
         p.set(BYTES, 1, 6);
         p.set(INTS, 1, 66666);
         p.set(LONGS, 1, 6666666666L);
@@ -403,7 +380,7 @@ public final class ActsTest {
     }
 
     private static void checks() {
-        LoomPanel p = panel();
+        LoomPanel p = Panels.ofEachForm();
         for (int x = BYTES; x <= LIVE_LOOM; x++) {
             for (int n = 0; n <= 11; n++) {
                 due(p, CHECK, x, NONE, n, p.is(x, n) == 1 ? x : CAST);
@@ -417,7 +394,7 @@ public final class ActsTest {
     }
 
     private static void full() {
-        LoomPanel p = panel();
+        LoomPanel p = Panels.ofEachForm();
         for (int made = NEXT; made < 59; made++) {
             p.wire(false, 0);
         }
@@ -445,11 +422,11 @@ public final class ActsTest {
     }
 
     private static void fullDrive() {
-        LoomPanel p = panel();
+        LoomPanel p = Panels.ofEachForm();
         for (int made = NEXT; made < 56; made++) {
             p.wire(false, 0);
         }
-        LoomPanel q = panel();
+        LoomPanel q = Panels.ofEachForm();
         for (int made = NEXT; made < 57; made++) {
             q.wire(false, 0);
         }

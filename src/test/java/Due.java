@@ -9,6 +9,7 @@ final class Due {
     private static final Path DOCUMENT = Path.of("../shared/DOC.md");
 
     private final String about;
+    private String document = "";
     private String sentence = "";
     private int askedOfSentence = 1;
     private int asked = 0;
@@ -23,14 +24,20 @@ final class Due {
         endSentence();
         sentence = words;
         askedOfSentence = 0;
-        try {
-            String text = Files.readString(DOCUMENT).replaceAll("\\s+", " ");
-            if (!text.contains(words)) {
-                tell("the document has no such sentence");
-            }
-        } catch (IOException e) {
-            tell("the document can not be read: " + e);
+        if (Files.isReadable(DOCUMENT) && !document().contains(words)) {
+            tell("the document has no such sentence");
         }
+    }
+
+    private String document() {
+        if (document.isEmpty()) {
+            try {
+                document = Files.readString(DOCUMENT).replaceAll("\\s+", " ");
+            } catch (IOException e) {
+                tell("the document can not be read: " + e);
+            }
+        }
+        return document;
     }
 
     private void endSentence() {

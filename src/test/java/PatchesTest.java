@@ -1,9 +1,6 @@
 /** Promises 8 to 11 (step, play, stopped, empty), 15 (count) and 16 (clear). */
-public final class PatchesTest {
+public final class PatchesTest implements Names {
     private static final Due DUE = new Due("PatchesTest");
-    private static final int NONE = LoomPanel.NONE, ITSELF = LoomPanel.ITSELF,
-            BAD = LoomPanel.BAD, ROOM = LoomPanel.ROOM;
-    private static final int CAST = -11, NULL = -12, INDEX = -13, FULL = -16;
 
     public static void main(String[] args) {
         stepping();

@@ -27,6 +27,8 @@ public final class RulesTest {
         nestedClasses();
         staticFields();
         words();
+        methodLengths();
+        fieldCounts();
         everyCallWithEdges();
         DUE.end();
     }
@@ -109,6 +111,35 @@ public final class RulesTest {
             String edge = letters ? "\\b" : "";
             DUE.holds("there is no " + word,
                     !Pattern.compile(edge + Pattern.quote(word) + edge).matcher(code).find());
+        }
+    }
+
+    /** By the indent of the line that opens a method and of the brace that closes it. */
+    private static void methodLengths() throws IOException {
+        List<String> lines = Files.readAllLines(SOURCE);
+        Pattern opening = Pattern.compile("( {4}| {8})[a-z].*\\) \\{");
+        int methods = 0;
+        for (int at = 0; at < lines.size(); at++) {
+            if (opening.matcher(lines.get(at)).matches()) {
+                String first = lines.get(at);
+                String brace = first.substring(0, first.length() - first.stripLeading().length()) + "}";
+                int length = 1 + lines.subList(at, lines.size()).indexOf(brace);
+                DUE.holds("at most sixty lines: " + first.strip(), length >= 1 && length <= 60);
+                methods++;
+            }
+        }
+        DUE.holds("methods were found: " + methods, methods > FACE.size());
+    }
+
+    private static void fieldCounts() {
+        List<Class<?>> classes = new ArrayList<>(Arrays.asList(LoomPanel.class.getDeclaredClasses()));
+        classes.add(LoomPanel.class);
+        for (Class<?> c : classes) {
+            int fields = 0;
+            for (Field f : c.getDeclaredFields()) {
+                fields += Modifier.isStatic(f.getModifiers()) ? 0 : 1;
+            }
+            DUE.holds(c + " has at most twenty fields", fields <= 20);
         }
     }
 

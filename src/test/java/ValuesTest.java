@@ -1,7 +1,6 @@
 /** Promises 1 to 6 (a new object, row, board, wire, set, number) and 12 to 14 (is, views, size). */
-public final class ValuesTest {
+public final class ValuesTest implements Names {
     private static final Due DUE = new Due("ValuesTest");
-    private static final int NONE = LoomPanel.NONE, BAD = LoomPanel.BAD, ROOM = LoomPanel.ROOM;
 
     public static void main(String[] args) {
         newObject();
@@ -143,7 +142,7 @@ public final class ValuesTest {
     }
 
     private static void views() {
-        LoomPanel p = oneOfEachForm();
+        LoomPanel p = Panels.ofEachForm();
         int[] bits = {1, 2, 4, 8, 16, 32 + 16 + 2048, 64, 128 + 64 + 256, 256, 512, 1024 + 512};
         for (int x = 0; x < bits.length; x++) {
             DUE.same("views(" + x + ")", p.views(x), bits[x]);
@@ -161,23 +160,13 @@ public final class ValuesTest {
     }
 
     private static void sizes() {
-        LoomPanel p = oneOfEachForm();
+        LoomPanel p = Panels.ofEachForm();
         for (int x = 0; x <= 10; x++) {
             DUE.same("size(" + x + ")", p.size(x), x == 4 || x == 5 ? 0 : 3);
         }
         for (int x : new int[] {-1, -2, 11, Integer.MIN_VALUE, Integer.MAX_VALUE}) {
             DUE.same("size(" + x + ")", p.size(x), BAD);
         }
-    }
-
-    private static LoomPanel oneOfEachForm() {
-        LoomPanel p = new LoomPanel();
-        for (int form = 0; form <= 10; form++) {
-            int x = form <= 2 ? p.row(form, 3)
-                    : form == 4 || form == 5 ? p.wire(form == 5, 7) : p.board(form, 3);
-            DUE.same("the number of form " + form, x, form);
-        }
-        return p;
     }
 
     private static void fill(LoomPanel p) {
