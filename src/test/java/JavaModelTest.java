@@ -8,7 +8,7 @@ import java.util.List;
  */
 public final class JavaModelTest {
     private static final Due DUE = new Due("JavaModelTest");
-    private static final int RUNS = 3000, CALLS = 500;
+    private static final int RUNS = 3000, CALLS = 512;
 
     private interface Plug {
         int level();
@@ -486,6 +486,7 @@ public final class JavaModelTest {
             call();
         }
         lookAtAll();
+        lastCalls();
     }
 
     private void same(String call, long got, long want) {
@@ -595,8 +596,7 @@ public final class JavaModelTest {
                         panel.act(joins, x, y, n), model.act(joins, x, y, n));
                 break;
             default:
-                same("act(" + act + ", " + x + ", " + y + ", " + n + ")",
-                        panel.act(act, x, y, n), model.act(act, x, y, n));
+                anyAct();
         }
     }
 
@@ -611,16 +611,32 @@ public final class JavaModelTest {
 
     /** What is left of the object's calls goes over the values, their numbers and PLACES. */
     private void lookAtAll() {
+        for (int what = 0; what <= 2; what++) {
+            same("count(" + what + ")", panel.count(what), model.count(what));
+        }
         for (int x = 0; x < model.values.size(); x++) {
             int size = model.size(x);
-            for (int i = 0; i < size && calls < CALLS; i++) {
+            for (int i = 0; i < size && calls < CALLS - 20; i++) {
                 same("number(" + x + ", " + i + ")", panel.number(x, i), model.number(x, i));
                 same("act(3, " + x + ", -1, " + i + ")", panel.act(3, x, -1, i),
                         model.act(3, x, -1, i));
             }
         }
-        for (int what = 0; what <= 2; what++) {
-            same("count(" + what + ")", panel.count(what), model.count(what));
+    }
+
+    /** The object's last call, the 512th, is an act, and is as due as the first. */
+    private void lastCalls() {
+        while (calls < CALLS) {
+            anyAct();
         }
+    }
+
+    private void anyAct() {
+        int x = value();
+        int y = value();
+        int act = someAct();
+        int n = n(act);
+        same("act(" + act + ", " + x + ", " + y + ", " + n + ")", panel.act(act, x, y, n),
+                model.act(act, x, y, n));
     }
 }
